@@ -34,8 +34,6 @@ public final class HopRouters {
     private final Packet arriving = new Packet();
     private int time;
     private int linksUp;
-    private int sentPackets;
-    private int lostPackets;
     private int unsoundPackets;
 
     public HopRouters() {
@@ -72,7 +70,7 @@ public final class HopRouters {
             if (isUp(router, other)) {
                 draft.begin(router, other, Packet.REQUEST);
                 draft.addEntry(Packet.FAMILY_OF_ALL, 0, UNREACHABLE);
-                postDraft();
+                air.launch(draft);
             }
         }
         return air.size;
@@ -93,7 +91,7 @@ public final class HopRouters {
                 draft.addEntry(Packet.FAMILY, d, UNREACHABLE);
             }
         }
-        postDraft();
+        air.launch(draft);
         return air.size;
     }
 
@@ -103,8 +101,8 @@ public final class HopRouters {
         }
         for (int i = 0; i < n; i++) {
             passTime();
-            if (all) {
-                bringAll();
+            for (int came = 0; all && came < MOST_ARRIVALS && air.size > 0; came++) {
+                bring(0);
             }
         }
         return air.size;
@@ -123,7 +121,7 @@ public final class HopRouters {
 
     public int twice(int k) throws IndexOutOfBoundsException {
         checkPacket(k);
-        post(air.at(k));
+        air.launch(air.at(k));
         return air.size;
     }
 
@@ -202,9 +200,9 @@ public final class HopRouters {
             case 0:
                 return air.size;
             case 1:
-                return lostPackets;
+                return air.lost;
             case 2:
-                return sentPackets;
+                return air.sent;
             case 3:
                 return time;
             case 4:
@@ -270,7 +268,10 @@ public final class HopRouters {
         table.clearChanges();
     }
 
-    /** Everything: all routes and the router itself; else the changed routes alone. */
+    /**
+     * Everything: all routes and the router itself; else the changed routes alone, of which the
+     * caller knows that there are some, so that there is always an entry to send.
+     */
     private void tell(int router, int neighbour, boolean everything) {
         Table table = tables[router];
         draft.begin(router, neighbour, Packet.RESPONSE);
@@ -282,26 +283,7 @@ public final class HopRouters {
                 draft.addEntry(Packet.FAMILY, d, table.metricTold(d, neighbour));
             }
         }
-        postDraft();
-    }
-
-    private void postDraft() {
-        if (draft.entries() > 0) {
-            post(draft);
-        }
-    }
-
-    private void post(Packet original) {
-        sentPackets++;
-        if (!air.addCopy(original)) {
-            lostPackets++;
-        }
-    }
-
-    private void bringAll() {
-        for (int i = 0; i < MOST_ARRIVALS && air.size > 0; i++) {
-            bring(0);
-        }
+        air.launch(draft);
     }
 
     /** Answers whether the link was up. */
@@ -309,7 +291,7 @@ public final class HopRouters {
         arriving.become(air.at(k));
         air.remove(k);
         if (!isUp(arriving.from, arriving.to)) {
-            lostPackets++;
+            air.lost++;
             return false;
         }
         if (!arriving.isSound()) {
@@ -349,7 +331,9 @@ public final class HopRouters {
                 draft.addEntry(Packet.FAMILY, d, metricAnswered(router, d));
             }
         }
-        postDraft();
+        if (draft.entries() > 0) {
+            air.launch(draft);
+        }
     }
 
     private int metricAnswered(int router, int d) {
@@ -625,6 +609,8 @@ public final class HopRouters {
         /** Each place once: the first ones, by age of their packets, are in use, the rest free. */
         private final int[] order = new int[MOST_IN_AIR];
         int size;
+        int sent;
+        int lost;
 
         Air() {
             for (int i = 0; i < MOST_IN_AIR; i++) {
@@ -637,14 +623,14 @@ public final class HopRouters {
             return places[order[k]];
         }
 
-        /** Answers whether there was room. */
-        boolean addCopy(Packet original) {
+        void launch(Packet original) {
+            sent++;
             if (size >= MOST_IN_AIR) {
-                return false;
+                lost++;
+                return;
             }
             places[order[size]].become(original);
             size++;
-            return true;
         }
 
         void remove(int k) {

@@ -5,6 +5,7 @@ public final class Promise06TickTest {
         allRoutesAreToldInTheirTurn();
         whatIsToldToNextIsPoisoned();
         changesAreToldAtOnce();
+        eachRouteIsToldAndGrowsOld();
         metricsAreToldUpTo16();
         routesGrowOldAndAreGone();
         routesThatAreGoneGo();
@@ -94,6 +95,27 @@ public final class Promise06TickTest {
         alone.link(0, 1, false);
         Checks.same("told to nobody", alone.tick(1, false), 0);
         Checks.same("no change either", alone.route(1, 5, 3), 0);
+    }
+
+    private static void eachRouteIsToldAndGrowsOld() {
+        for (int router = 0; router < Nets.ROUTERS; router++) {
+            int other = (router + 1) % Nets.ROUTERS;
+            for (int d = 0; d < Nets.ROUTERS; d++) {
+                if (d == router) {
+                    continue;
+                }
+                HopRouters x = new HopRouters();
+                x.link(router, other, true);
+                Nets.hear(x, other, router, d, 2);
+                Checks.same("told", x.tick(1, false), 1);
+                Checks.same("the change", Nets.packet(x, 0), Nets.due(router, other, 2, 2, d, 16));
+                Checks.same("the route", Nets.route(x, router, d), "2 " + other + " 1 0 0");
+                x.lose(0);
+                Nets.hear(x, other, router, d, 16);
+                Checks.same("told again", x.tick(1, false), 1);
+                Checks.same("silent", Nets.route(x, router, d), "16 " + other + " 1 0 19");
+            }
+        }
     }
 
     private static void metricsAreToldUpTo16() {
