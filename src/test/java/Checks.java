@@ -1,13 +1,21 @@
 /** Counts the checks of one test program, and tells those that fail. */
 final class Checks {
+    private static int sentences = 0;
     private static int passed = 0;
     private static int failed = 0;
+    private static String sentence = "";
 
     private Checks() {
     }
 
     interface Call {
         void run();
+    }
+
+    /** What the document says, and the checks behind this hold it to. */
+    static void says(String words) {
+        sentence = words;
+        sentences++;
     }
 
     static void same(String what, long got, long due) {
@@ -22,9 +30,9 @@ final class Checks {
         note(got.equals(due), what + " is\n" + got + "\ndue is\n" + due);
     }
 
-    /** The call must throw just this class, and leave the object as it was. */
-    static void refused(String what, HopRouters x, Class<?> due, Call call) {
-        String before = Nets.state(x);
+    /** The call must throw just this class, and leave the net as it was. */
+    static void refused(String what, Net x, Class<?> due, Call call) {
+        String before = Look.state(x);
         String got = "nothing";
         try {
             call.run();
@@ -32,18 +40,18 @@ final class Checks {
             got = e.getClass().getName();
         }
         note(got.equals(due.getName()), what + " threw " + got + ", due is " + due.getName());
-        same("the state behind " + what, Nets.state(x), before);
+        same("the state behind " + what, Look.state(x), before);
     }
 
-    static void noSuch(String what, HopRouters x, Call call) {
+    static void noSuch(String what, Net x, Call call) {
         refused(what, x, IndexOutOfBoundsException.class, call);
     }
 
-    static void notAsSaid(String what, HopRouters x, Call call) {
+    static void notAsSaid(String what, Net x, Call call) {
         refused(what, x, IllegalArgumentException.class, call);
     }
 
-    static void notNow(String what, HopRouters x, Call call) {
+    static void notNow(String what, Net x, Call call) {
         refused(what, x, IllegalStateException.class, call);
     }
 
@@ -53,11 +61,15 @@ final class Checks {
         } else {
             failed++;
             System.out.println("wrong: " + trouble);
+            if (!sentence.isEmpty()) {
+                System.out.println("  where the document says: " + sentence);
+            }
         }
     }
 
     static void end() {
-        System.out.println("checks: " + passed + " passed, " + failed + " failed");
+        String held = sentences == 0 ? "" : " of " + sentences + " sentences";
+        System.out.println("checks" + held + ": " + passed + " passed, " + failed + " failed");
         if (failed != 0 || passed == 0) {
             System.exit(1);
         }

@@ -1,16 +1,19 @@
 import java.util.Random;
 
-/** Random runs of 512 calls, from fixed seeds: every answer is compared with the plain model's. */
+/**
+ * Random runs of 512 calls, from fixed seeds: every answer is compared with the plain model's. The
+ * last calls of a run only look, at tables and packets, so that nothing that went wrong stays hidden.
+ */
 public final class ModelTest {
-    private static final int RUNS = 1500;
-    private static final int CALLS = 512;
+    private static final int RUNS = 2500;
+    private static final int LEAST_LOOKS = 100;
 
     private interface Answer {
         long get();
     }
 
     private final Random random;
-    private final HopRouters x = new HopRouters();
+    private final Net x = new Net();
     private final PlainModel model = new PlainModel();
     private final StringBuilder story = new StringBuilder();
     private boolean good = true;
@@ -31,18 +34,20 @@ public final class ModelTest {
     private void go() {
         int links = random.nextInt(20);
         boolean calm = random.nextBoolean();
-        for (int i = 0; i < CALLS && good; i++) {
+        int steps = 50 + random.nextInt(Net.MOST_CALLS - 50 - LEAST_LOOKS);
+        for (int i = 0; i < steps && good; i++) {
             if (i < links) {
                 link(number(8), number(8), true);
             } else {
                 step(calm ? random.nextInt(120) : random.nextInt(100));
             }
-            if (i % 32 == 31) {
-                compareTables();
-            }
         }
-        compareTables();
-        comparePackets();
+        for (int what = 0; what <= 5 && good; what++) {
+            count(what);
+        }
+        while (x.callsLeft() > 0 && good) {
+            look();
+        }
     }
 
     private static long outcome(Answer call) {
@@ -105,8 +110,7 @@ public final class ModelTest {
         } else if (dice < 78) {
             cut(k, random.nextBoolean() ? someByte(k) : 4 + 20 * number(8));
         } else if (dice < 85) {
-            int i = someByte(k) - (random.nextInt(4) == 0 ? 4 : 0);
-            compare("packet " + k + " " + i, () -> x.packet(k, i), () -> model.packet(k, i));
+            packet(k, someByte(k) - (random.nextInt(4) == 0 ? 4 : 0));
         } else if (dice < 92) {
             route(number(8), number(8), number(5));
         } else if (dice < 97) {
@@ -114,8 +118,7 @@ public final class ModelTest {
             int b = number(8);
             compare("send " + a + " " + b, () -> x.send(a, b), () -> model.send(a, b));
         } else if (dice < 100) {
-            int what = number(6);
-            compare("count " + what, () -> x.count(what), () -> model.count(what));
+            count(number(6));
         } else {
             tick(number(40), true);
         }
@@ -181,25 +184,23 @@ public final class ModelTest {
                 () -> x.route(a, b, what), () -> model.route(a, b, what));
     }
 
-    private void compareTables() {
-        for (int i = 0; i < 64 * 5 && good; i++) {
-            int at = i;
-            compare("table " + i, () -> x.route(at / 40, at / 5 % 8, at % 5),
-                    () -> model.route(at / 40, at / 5 % 8, at % 5));
-        }
-        for (int i = 0; i <= 5 && good; i++) {
-            int what = i;
-            compare("count " + i, () -> x.count(what), () -> model.count(what));
+    private void count(int what) {
+        compare("count " + what, () -> x.count(what), () -> model.count(what));
+    }
+
+    /** One part of one route, or one byte of a packet. */
+    private void look() {
+        int size = model.air.size();
+        if (size == 0 || random.nextBoolean()) {
+            route(random.nextInt(8), random.nextInt(8), random.nextInt(5));
+        } else {
+            int k = random.nextInt(size);
+            int i = random.nextInt(model.air.get(k).bytes.size() + 3) - 3;
+            packet(k, i);
         }
     }
 
-    private void comparePackets() {
-        for (int i = 0; i < model.air.size() && good; i++) {
-            int k = i;
-            for (int j = -3; j < model.air.get(k).bytes.size() && good; j++) {
-                int at = j;
-                compare("packet " + k + " " + j, () -> x.packet(k, at), () -> model.packet(k, at));
-            }
-        }
+    private void packet(int k, int i) {
+        compare("packet " + k + " " + i, () -> x.packet(k, i), () -> model.packet(k, i));
     }
 }
