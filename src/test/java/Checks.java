@@ -1,11 +1,30 @@
 /** Counts the checks of one test program, and tells those that fail. */
 final class Checks {
+    private static final long LONGEST_RUN_MS = 240_000;
+
     private static int sentences = 0;
     private static int passed = 0;
     private static int failed = 0;
     private static String sentence = "";
 
+    static {
+        Thread watch = new Thread(Checks::stopWhatDoesNotEnd);
+        watch.setDaemon(true);
+        watch.start();
+    }
+
     private Checks() {
+    }
+
+    /** A call that never ends must fail its test, not hang it. */
+    private static void stopWhatDoesNotEnd() {
+        try {
+            Thread.sleep(LONGEST_RUN_MS);
+        } catch (InterruptedException e) {
+            return;
+        }
+        System.out.println("wrong: a call does not end");
+        Runtime.getRuntime().halt(1);
     }
 
     interface Call {
@@ -53,6 +72,10 @@ final class Checks {
 
     static void notNow(String what, Net x, Call call) {
         refused(what, x, IllegalStateException.class, call);
+    }
+
+    static boolean allGood() {
+        return failed == 0;
     }
 
     static void note(boolean good, String trouble) {

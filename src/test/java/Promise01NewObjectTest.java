@@ -73,17 +73,19 @@ public final class Promise01NewObjectTest {
     private static void uses() {
         Checks.says("An object is used for at most 512 calls after it has been made");
         Net x = Nets.line(2);
-        for (int i = 1; i <= 510; i++) {
-            x.tick(1000, true);
+        for (int i = 1; i <= 508; i++) {
+            x.tick(1000, false);
         }
-        Checks.same("the time, asked by the last call", x.count(3), 510000);
+        Checks.same("the most time that a test can ask for", x.count(3), 508000);
+        Checks.same("sent", x.count(2), 508000 / 10 * 2);
+        Checks.same("lost, asked by the last call", x.count(1), 508000 / 10 * 2 - 200);
         Checks.same("calls left", x.callsLeft(), 0);
         Net y = Nets.line(2);
         for (int i = 1; i <= 510; i++) {
-            y.tick(1000, true);
+            Checks.same("tick " + i, y.tick(20, true), 0);
         }
         // 1 tells at 9, 0 at 10, and 1 what it has heard then at 11; then each every ten ticks.
-        Checks.same("packets sent", y.count(2), 510000 / 10 * 2 + 1);
+        Checks.same("sent", y.count(2), 510 * 20 / 10 * 2 + 1);
         Net z = Nets.line(2);
         for (int i = 1; i <= 510; i++) {
             Checks.same("ask " + i, z.ask(0, 1, i % 255 + 1), Math.min(i, 200));

@@ -11,7 +11,7 @@ public final class Promise13RouteTest {
     }
 
     private static void whatARouteHas() {
-        Checks.says("Of a router's route to another one: what = 0 its metric, 1 NEXT, 2 the age, "
+        Checks.says("Of a router's route to another one: what = 0 its metric (..), 1 NEXT, 2 the age, "
                 + "3 whether it is CHANGED (1), 4 SILENT");
         Net x = Nets.line(4);
         Nets.hear(x, 2, 3, 7, 5);

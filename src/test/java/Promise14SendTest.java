@@ -98,7 +98,7 @@ public final class Promise14SendTest {
      * goes on for ever: loops of each size stand for all that is beyond 16 hops.
      */
     private static void notThereBehind16Hops() {
-        Checks.says("at most 16 hops; -3 it is not there behind 16 hops");
+        Checks.says("at most 16 hops .. -3 it is not there behind 16 hops");
         for (int size = 2; size <= 7; size++) {
             Net x = loop(size);
             for (int r = 0; r < size; r++) {
